@@ -880,8 +880,8 @@ public final class SenateRoll {
             for (int i = scales.size() - 1; i >= 0; i--) {
                 int scale = scales.get(i, 0);
                 int by = house.acts.get(scale, House.BY);
-                boolean meant = house.acts.get(scale, House.COURSE) == course && house.acts.get(scale, House.DAY) >= day;
-                if (meant && by > 0) {
+                boolean sameCourse = house.acts.get(scale, House.COURSE) == course;
+                if (sameCourse && house.acts.get(scale, House.DAY) >= day && by > 0) {
                     int scaled = v * house.acts.get(scale, House.TIMES) / by + house.acts.get(scale, House.AND);
                     return Math.max(0, Math.min(100, scaled));
                 }
@@ -890,7 +890,7 @@ public final class SenateRoll {
         }
     }
 
-    /** Reads a text from left to right and makes a code of it: numbers as they are, the rest as ~kind, operands first. */
+    /** Makes a code of a text, read from left to right: numbers as they are, the rest as ~kind, operands first. */
     private static final class Reader {
         private static final String WORDS =
             "unless if else or and not best mark tries excused leans course credit mean passed ";
@@ -1252,7 +1252,7 @@ public final class SenateRoll {
                     push(bestOf(pop()) + more);
                     break;
                 case Reader.NOT:
-                    push(truth(pop() == 0));
+                    push(pop() == 0 ? 1 : 0);
                     break;
                 case Reader.NEGATIVE:
                     push(-pop());
@@ -1273,21 +1273,17 @@ public final class SenateRoll {
         private static long ofTwo(int kind, long one, long other) {
             switch (kind) {
                 case Reader.UNLESS: return other != 0 ? 0 : one;
-                case Reader.OR: return truth(one != 0 || other != 0);
-                case Reader.AND: return truth(one != 0 && other != 0);
-                case Reader.LESS: return truth(one < other);
-                case Reader.GREATER: return truth(one > other);
-                case Reader.EQUAL: return truth(one == other);
+                case Reader.OR: return one != 0 || other != 0 ? 1 : 0;
+                case Reader.AND: return one != 0 && other != 0 ? 1 : 0;
+                case Reader.LESS: return one < other ? 1 : 0;
+                case Reader.GREATER: return one > other ? 1 : 0;
+                case Reader.EQUAL: return one == other ? 1 : 0;
                 case Reader.PLUS: return one + other;
                 case Reader.MINUS: return one - other;
                 case Reader.TIMES: return one * other;
                 case Reader.OVER: return other == 0 ? 0 : one / other;
                 default: return 0;
             }
-        }
-
-        private static long truth(boolean is) {
-            return is ? 1 : 0;
         }
 
         private void push(long v) {
@@ -1539,12 +1535,12 @@ public final class SenateRoll {
             int least = ways.leastFor(left, term);
             int terms = NEVER;
             int set = 0;
-            do {
+            for (int sets = 1 << Integer.bitCount(free); sets > 0 && terms > least; sets--) {
                 if (Integer.bitCount(set) == full && 1 + ways.leastFor(left & ~set, next) < terms) {
                     terms = Math.min(terms, 1 + fewestFor(ways, left & ~set, next, depth + 1));
                 }
                 set = (set - free) & free;
-            } while (set != 0 && terms > least);
+            }
             ways.fewest[left] |= terms << (BITS_A_TERM * term);
             return terms;
         }
@@ -1564,7 +1560,7 @@ public final class SenateRoll {
             return ((house.courses.get(course, House.TERMS) >> term) & 1) == 1;
         }
 
-        /** No way is shorter: courses as early as those they lean on let them be, and no term with more than it may have. */
+        /** No way is shorter: each course behind those it leans on, and no term with more than it may have. */
         private int leastFor(int left, int term) {
             int least = 0;
             waiting.fillColumn(0, 0);
@@ -1761,7 +1757,7 @@ public final class SenateRoll {
             return isAtMostPower(differing);
         }
 
-        /** The lesser chance is that of the greater number: as many ways lead there as to the lesser number or fewer. */
+        /** The lesser chance is that of the greater number; as many ways lead to the lesser number or fewer. */
         private void countTail(int upTo) {
             Arrays.fill(ways, 0L);
             Arrays.fill(tail, 0L);

@@ -21,7 +21,18 @@ public final class ModelTest {
         for (int run = 1; run <= runs && Check.allIsWell(); run++) {
             new ModelTest(run).play();
         }
+        faults(100 * runs);
         Check.end("ModelTest");
+    }
+
+    private static void faults(int texts) {
+        TextDice dice = new TextDice(new Dice(texts));
+        SenateRoll roll = new SenateRoll();
+        for (int i = 0; i < texts; i++) {
+            String text = dice.text();
+            Texts.put(roll, 0, text);
+            Check.same("the fault of '" + text + "'", roll.fault(0), Model.faultOf(text));
+        }
     }
 
     private void same(String call, long got, long due, int... told) {
@@ -40,7 +51,7 @@ public final class ModelTest {
         for (int i = 0; i < courses; i++) {
             makeCourse();
         }
-        int students = dice.between(1, 6);
+        int students = dice.oneIn(8) ? 20 : dice.between(1, 6);
         for (int i = 0; i < students; i++) {
             int began = day();
             same("student", roll.student(began), model.student(began), began);

@@ -5,6 +5,10 @@ final class TextDice {
         "unless", "if", "else", "or", "and", "not", "best", "mark", "mean", "foo", "elsee", "i", "1234567", "0000001",
         "999999", "(", ")", "((((((((", "(((((((((", "<", ">", "=", "+", "-", "*", "/", " ", "  ", "A", "_", "\t", "7"
     };
+    private static final String[] BEFORE = {"", "", "", "", "", "(", "not ", "-", "best "};
+    private static final String[] BEHIND = {
+        " unless ", " if ", " if ", " else ", " else ", " or ", " and ", "<", ">", "=", "+", "-", "*", "/", " if 1 else "
+    };
     private final Dice dice;
 
     TextDice(Dice dice) {
@@ -12,7 +16,7 @@ final class TextDice {
     }
 
     String text() {
-        StringBuilder text = new StringBuilder(value(dice.between(0, 4)));
+        StringBuilder text = new StringBuilder(dice.oneIn(4) ? loose() : value(dice.between(0, 4)));
         if (text.length() > 80) {
             text.setLength(dice.oneIn(2) ? 80 : dice.below(81));
         }
@@ -23,6 +27,16 @@ final class TextDice {
             text.setLength(80);
         }
         return text.toString();
+    }
+
+    /** Units and what may stand behind one, in turns, so that only what is open decides whether it stands. */
+    private String loose() {
+        StringBuilder row = new StringBuilder();
+        for (int units = dice.between(1, 9); units > 0; units--) {
+            row.append(BEFORE[dice.below(BEFORE.length)]).append(dice.oneIn(3) ? NAMES[dice.below(NAMES.length)] : "7");
+            row.append(dice.oneIn(6) ? ")" : "").append(units > 1 ? BEHIND[dice.below(BEHIND.length)] : "");
+        }
+        return row.toString();
     }
 
     private void disturb(StringBuilder text) {
