@@ -606,8 +606,8 @@ public final class SenateRoll {
             set(row, column, get(row, column) + more);
         }
 
-        void fillColumn(int column, int value) {
-            for (int row = 0; row < limit; row++) {
+        void fillColumn(int column, int value, int rows) {
+            for (int row = 0; row < rows && row < limit; row++) {
                 set(row, column, value);
             }
         }
@@ -808,7 +808,7 @@ public final class SenateRoll {
 
         /** From the last act back: a strike has a greater number than what it strikes, so it is settled first. */
         private void sift(int k, int voided) {
-            acts.fillColumn(STRUCK, NONE);
+            acts.fillColumn(STRUCK, NONE, house.acts.size());
             for (int act = house.acts.size() - 1; act >= 0; act--) {
                 int meeting = house.acts.get(act, House.MEETING);
                 boolean valid = meeting == NONE || (meeting != voided && house.isStanding(meeting));
@@ -821,12 +821,13 @@ public final class SenateRoll {
         }
 
         private void gather() {
-            acts.fillColumn(SECOND, NONE);
-            acts.fillColumn(MODERATED, NONE);
-            outcomes.fillColumn(FINAL, NONE);
-            outcomes.fillColumn(TRIES, 0);
-            outcomes.fillColumn(EXCUSED, 0);
-            outcomes.fillColumn(FIRST, NONE);
+            int all = house.students.size() * COURSES;
+            acts.fillColumn(SECOND, NONE, house.acts.size());
+            acts.fillColumn(MODERATED, NONE, house.acts.size());
+            outcomes.fillColumn(FINAL, NONE, all);
+            outcomes.fillColumn(TRIES, 0, all);
+            outcomes.fillColumn(EXCUSED, 0, all);
+            outcomes.fillColumn(FIRST, NONE, all);
             scales.drop();
             for (int act = 0; act < house.acts.size(); act++) {
                 if (holds(act)) {
@@ -1395,17 +1396,15 @@ public final class SenateRoll {
         }
 
         int rollOf(int student, int day) {
-            int latest = NONE;
             int on = NONE;
             for (int act = 0; act < house.acts.size(); act++) {
                 int met = house.acts.get(act, House.DAY);
                 boolean meant = house.isA(House.DEGREE, act) && house.acts.get(act, House.STUDENT) == student;
-                if (meant && known.holds(act) && met <= day && met >= on) {
-                    latest = act;
-                    on = met;
+                if (meant && known.holds(act) && met <= day) {
+                    on = Math.max(on, met);
                 }
             }
-            return latest == NONE ? NONE : classOf(student, on);
+            return on == NONE ? NONE : classOf(student, on);
         }
 
         int hangingOn(int meeting, int day, int k) {
@@ -1563,7 +1562,7 @@ public final class SenateRoll {
         /** No way is shorter: each course behind those it leans on, and no term with more than it may have. */
         private int leastFor(int left, int term) {
             int least = 0;
-            waiting.fillColumn(0, 0);
+            waiting.fillColumn(0, 0, 1 << TERMS_A_YEAR);
             for (int course = 0; course < COURSES; course++) {
                 if (((left >> course) & 1) == 1) {
                     int at = earliest(course, left, term);
