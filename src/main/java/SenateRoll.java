@@ -960,8 +960,7 @@ public final class SenateRoll {
         private void takeUnit() {
             switch (kind) {
                 case NUMBER:
-                    emit(value);
-                    unitIsDue = false;
+                    takeNumber();
                     break;
                 case MARK: case TRIES: case EXCUSED: case LEANS: case COURSE: case CREDIT: case MEAN: case PASSED:
                     emit(~kind);
@@ -1016,6 +1015,16 @@ public final class SenateRoll {
                     fail(SUCH);
                     break;
             }
+        }
+
+        /** Where no number can stand its first digit is such already, so only here its length matters. */
+        private void takeNumber() {
+            if (end - start > DIGITS) {
+                fail(LONG_NUMBER);
+                return;
+            }
+            emit(value);
+            unitIsDue = false;
         }
 
         private void openOne() {
@@ -1121,9 +1130,6 @@ public final class SenateRoll {
             while (end < length && isDigit(letter(end))) {
                 value = 10 * value + letter(end) - '0';
                 end++;
-            }
-            if (end - start > DIGITS) {
-                fail(LONG_NUMBER);
             }
         }
 

@@ -696,9 +696,6 @@ final class Model {
             String run = rest.replaceFirst("(?s)^([0-9]+|[a-z]+|.|).*$", "$1");
             at += run.length();
             token = run;
-            if (run.matches("[0-9]{7,}")) {
-                throw new Fault(start, 2);
-            }
             if (run.matches("[a-z]+") && !NAMES.contains(run) && !OTHERS.contains(run)) {
                 throw new Fault(start, 4);
             }
@@ -802,6 +799,9 @@ final class Model {
         }
 
         private Node unit() {
+            if (token.matches("[0-9]{7,}")) {
+                throw new Fault(start, 2);
+            }
             if (token.matches("[0-9]+")) {
                 long v = Long.parseLong(token);
                 next();

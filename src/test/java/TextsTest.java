@@ -9,6 +9,7 @@ public final class TextsTest {
         writing();
         faultsByPlace();
         faultsByKind();
+        longNumbersByPlace();
         soundTexts();
         telling();
         names();
@@ -132,6 +133,45 @@ public final class TextsTest {
         fault("((((((((1))))))))+((((((((1))))))))", -1);
         fault("(1)+(((((((((1", 123);
         fault("((((((((1)+(1", -1 + 132);
+    }
+
+    /** A number of 6 digits, one of 7 and a longer one: where a number can stand, and where none can. */
+    private static void longNumbersByPlace() {
+        String[] numbers = {"123456", "000000", "1234567", "0000000", "12345678901234567890"};
+        // What stands ahead of the number and what behind it, to make a sound text of it.
+        String[][] can = {{"", ""}, {" ", ""}, {"(", ")"}, {"((((((((", "))))))))"}, {"-", ""}, {"not ", ""}, {"best ", ""},
+            {"best", ""}, {"1 + ", ""}, {"1*", ""}, {"2 < ", ""}, {"1 and ", ""}, {"1 or", ""}, {"1 if ", " else 2"},
+            {"1 if 2 else ", ""}, {"1 unless ", ""}, {"not(1)=", " + 3"}};
+        String[] canNot = {"0 ", "000000 ", "mark", "mark ", "(1)", "(1) ", "best 3 ", "1 + 2 ", "1 if 2 ",
+            "1 if 2 else 3 ", "1 unless 2 ", "1 < 2 ", "(1 "};
+        for (String number : numbers) {
+            for (String[] around : can) {
+                int due = number.length() > 6 ? 10 * around[0].length() + 2 : -1;
+                fault(around[0] + number + around[1], due);
+            }
+            for (String before : canNot) {
+                fault(before + number, 10 * before.length() + 1);
+            }
+        }
+        fault("1 2 1234567", 21);
+        fault("1 1234567 foo", 21);
+        fault("1234567 1234567", 2);
+        fault("(1234567", 12);
+        fault("foo 1234567", 4);
+        refusedTexts("0 0000000");
+        refusedTexts("0000000");
+    }
+
+    /** The other calls that look for a FAULT find one here. */
+    private static void refusedTexts(String faulty) {
+        SenateRoll x = new SenateRoll();
+        x.student(0);
+        Texts.put(x, 0, faulty);
+        Texts.put(x, 1, "1");
+        Check.same("promise 30: '" + faulty + "'", x.tells(0, 0, -1, 0, 0), -3000000000000000000L);
+        Check.same("promise 31: '" + faulty + "' for what passes", x.ordain(0, 1, 0, true), -3);
+        Check.same("promise 31: '" + faulty + "' for the class", x.ordain(1, 0, 0, true), -3);
+        Check.same("promise 31: nothing is changed", x.count(5), 0);
     }
 
     private static void soundTexts() {
