@@ -57,6 +57,7 @@ public final class RefusalsTest {
         reasonsForNo();
         noAheadOfFull();
         oddSets();
+        whatIsTakenShows();
         Check.end("RefusalsTest");
     }
 
@@ -358,6 +359,45 @@ public final class RefusalsTest {
         Check.same("BAD ahead of NO: hangs, k", x.hangs(1, 5, -1), BAD);
         Check.same("BAD ahead of NO: appeal", x.appeal(0, 10000), BAD);
         Twins.alike("after what was refused", x, fullHouse());
+    }
+
+    /** What is taken does change later answers, so that Twins would see it of a refused call; an IMAGE takes it back. */
+    private static void whatIsTakenShows() {
+        String[] names = {"course", "student", "board", "meeting", "tear", "mark", "second", "moderate", "scale", "excuse",
+            "strike", "degree", "appeal", "days", "odds", "write", "erase", "ordain", "line", "image", "sits"};
+        for (String name : names) {
+            Row row = rowOf(name);
+            SenateRoll x = house();
+            row.call.on(x, row.told);
+            Check.same(row.named(row.told) + " shows", Twins.differ(x, house()) ? 1 : 0, 1);
+            if (!name.equals("image")) {
+                goesOnFromAnImage(row, row.told);
+            }
+        }
+        SenateRoll x = house();
+        Check.same("choose(1, -1): what it had", x.choose(1, -1), 0);
+        Check.same("choose(1, -1) shows", Twins.differ(x, house()) ? 1 : 0, 1);
+        goesOnFromAnImage(rowOf("choose"), list(1, -1));
+        goesOnFromAnImage(rowOf("choose"), list(0, 1));
+        x = house();
+        Check.same("from(0)", x.from(0), 1);
+        Check.same("from(0) shows", Twins.differ(x, house()) ? 1 : 0, 1);
+        goesOnFromAnImage(rowOf("from"), list(0));
+        x = house();
+        Check.same("clear()", x.clear(), 2);
+        Check.same("clear() shows", Twins.differ(x, house()) ? 1 : 0, 1);
+    }
+
+    private static void goesOnFromAnImage(Row row, int[] told) {
+        SenateRoll x = house();
+        SenateRoll twin = house();
+        x.image(1);
+        twin.image(1);
+        row.call.on(x, told);
+        row.call.on(x, told);
+        x.clear();
+        Check.same("from(1)", x.from(1), 1);
+        Twins.alike("from an image, after " + row.named(told), x, twin);
     }
 
     /** Bits of courses that are there and of some that are not. */

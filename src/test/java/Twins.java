@@ -49,6 +49,15 @@ final class Twins {
         }
     }
 
+    /** Whether the two answer something otherwise. */
+    static boolean differ(SenateRoll x, SenateRoll twin) {
+        boolean differ = false;
+        for (Asked one : ALL) {
+            differ |= one.call.on(x, one.told) != one.call.on(twin, one.told);
+        }
+        return differ;
+    }
+
     private static void ask(String name, Call call, int... told) {
         ALL.add(new Asked(name, call, told));
     }
